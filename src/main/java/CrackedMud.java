@@ -25,7 +25,7 @@ public final class CrackedMud {
     private static final int IN_BORDER = -2;
     private static final int GOES_ON = -3;
 
-    private static final int[] BESIDE = {0, 3, 1};
+    private static final int[] STRAIGHT_LEFT_RIGHT = {0, 3, 1};
     private static final int UP = 0;
     private static final int RIGHT = 1;
     private static final int DOWN = 2;
@@ -222,7 +222,7 @@ public final class CrackedMud {
             case 4:
                 return mud.scratches[edge];
             case 5:
-                return mud.scars[edge] ? 1 : 0;
+                return mud.scars[edge];
             case 6:
             case 7:
                 return edgeUnder(lawAt(law), edge, what == 6);
@@ -255,7 +255,8 @@ public final class CrackedMud {
         if (lawCount >= TEXTS) {
             return NONE;
         }
-        Rule rule = takeTape(false);
+        Rule rule = reader.read(tapeLength, false);
+        tapeLength = 0;
         if (rule == null) {
             return -2 - reader.fault;
         }
@@ -268,7 +269,8 @@ public final class CrackedMud {
         if (wantCount >= TEXTS) {
             return NONE;
         }
-        Rule rule = takeTape(true);
+        Rule rule = reader.read(tapeLength, true);
+        tapeLength = 0;
         if (rule == null) {
             return -2 - reader.fault;
         }
@@ -670,12 +672,6 @@ public final class CrackedMud {
         }
     }
 
-    private Rule takeTape(boolean asWant) {
-        Rule rule = reader.read(tapeLength, asWant);
-        tapeLength = 0;
-        return rule;
-    }
-
     private int countOfFloor(int what) {
         if (what == 12) {
             return mud.tears.made;
@@ -720,8 +716,9 @@ public final class CrackedMud {
     private boolean leadsTo(int set, Rule law, Rule want, int n) {
         trial.become(mud);
         for (int k = 0; k < CANDIDATES; k++) {
-            if ((set >> k & 1) != 0) {
-                trial.scratches[notes.candidateEdges[k]] = notes.candidateScratches[k];
+            int edge = notes.candidateEdges[k];
+            if ((set >> k & 1) != 0 && isEdge(edge)) {
+                trial.scratches[edge] = notes.candidateScratches[k];
             }
         }
         weather.take(trial, law);
@@ -871,7 +868,7 @@ public final class CrackedMud {
         final int[] scratches = new int[EDGES];
         final int[] owners = new int[EDGES];
         final int[] depths = new int[EDGES];
-        final boolean[] scars = new boolean[EDGES];
+        final int[] scars = new int[EDGES];
         final Tears tears = new Tears();
 
         void lay(int newLayers, int newSeed, int newLeast, int newGreatest) {
@@ -886,7 +883,7 @@ public final class CrackedMud {
             Arrays.fill(scratches, 0);
             Arrays.fill(owners, NONE);
             Arrays.fill(depths, 0);
-            Arrays.fill(scars, false);
+            Arrays.fill(scars, 0);
             tears.made = 0;
             layGrains();
         }
@@ -935,9 +932,7 @@ public final class CrackedMud {
         int scarred() {
             int found = 0;
             for (int edge = 0; edge < EDGES; edge++) {
-                if (scars[edge]) {
-                    found++;
-                }
+                found += scars[edge];
             }
             return found;
         }
@@ -953,7 +948,7 @@ public final class CrackedMud {
         void rip(int edge, int tear) {
             owners[edge] = tear;
             depths[edge] = 1;
-            scars[edge] = false;
+            scars[edge] = 0;
             tears.lengths[tear]++;
         }
 
@@ -961,7 +956,7 @@ public final class CrackedMud {
             int tear = owners[edge];
             owners[edge] = NONE;
             depths[edge] = 0;
-            scars[edge] = true;
+            scars[edge] = 1;
             tears.loseEdge(tear);
         }
     }
@@ -1082,7 +1077,7 @@ public final class CrackedMud {
         private void takeNumber() {
             sort = A_NUMBER;
             int number = 0;
-            while (isDigitAt(next)) {
+            while (next < length && isDigitAt(next)) {
                 if (next - place < DIGITS) {
                     number = 10 * number + text[next] - '0';
                 }
@@ -1094,7 +1089,7 @@ public final class CrackedMud {
         /** Its value is NONE if no text has such a word. */
         private void takeWord() {
             sort = A_WORD;
-            while (isLetterAt(next)) {
+            while (next < length && isLetterAt(next)) {
                 next++;
             }
             for (int word = 0; word < VOCABULARY && value == NONE; word++) {
@@ -1617,7 +1612,7 @@ public final class CrackedMud {
                 mud.shades[one] + mud.shades[other], mud.salts[one] + mud.salts[other]);
             long sum = Math.max(-NUMBER_MOST, Math.min(NUMBER_MOST, reckoner.sumOf(law, TEAR)));
             int held = mud.grains[edge] - mud.scratches[edge] + (int) sum;
-            if (mud.scars[edge]) {
+            if (mud.scars[edge] == 1) {
                 held = Math.floorDiv(held * law.settings[SCAR], 1000);
             }
             return Math.max(1, held);
@@ -1648,8 +1643,8 @@ public final class CrackedMud {
             int along = tears.tipWays[tip];
             int best = NONE;
             int bestWay = along;
-            for (int turn = 0; turn < BESIDE.length; turn++) {
-                int way = (along + BESIDE[turn]) % WAYS;
+            for (int turn = 0; turn < STRAIGHT_LEFT_RIGHT.length; turn++) {
+                int way = (along + STRAIGHT_LEFT_RIGHT[turn]) % WAYS;
                 int edge = grid.spokes[WAYS * node + way];
                 if (mayFollow(edge) && (best == NONE || pulls[edge] > pulls[best])) {
                     best = edge;
@@ -1809,7 +1804,7 @@ public final class CrackedMud {
             roomOf[room] = room;
             queue[0] = room;
             int found = 1;
-            for (int k = 0; k < found; k++) {
+            for (int k = 0; k < found && k < CELLS; k++) {
                 int cell = queue[k];
                 atRim[room] |= Grid.isRim(cell);
                 for (int way = 0; way < WAYS; way++) {
