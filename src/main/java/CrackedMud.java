@@ -71,7 +71,7 @@ public final class CrackedMud {
     private static final int IF_WORD = 10;
     private static final int AND_WORD = 11;
     private static final int OR_WORD = 12;
-    private static final int LAW_WORDS = 13;
+    private static final int FIRST_LAW_WORD = 13;
     private static final int X_WORD = 0;
     private static final int Y_WORD = 1;
     private static final int WET_WORD = 2;
@@ -79,9 +79,9 @@ public final class CrackedMud {
     private static final int SALT_WORD = 4;
     private static final int WAY_WORD = 5;
     private static final int TICK_WORD = 6;
-    private static final int TICK = LAW_WORDS + TICK_WORD;
-    private static final int WANT_WORDS = TICK + 1;
-    private static final int VOCABULARY = WANT_WORDS + GREATEST_AT + 1;
+    private static final int TICK_SPELT = FIRST_LAW_WORD + TICK_WORD;
+    private static final int FIRST_WANT_WORD = TICK_SPELT + 1;
+    private static final int VOCABULARY = FIRST_WANT_WORD + GREATEST_AT + 1;
 
     private static final int CLAUSES = 12;
     private static final int THINGS = 60;
@@ -140,7 +140,7 @@ public final class CrackedMud {
     private final Rule[] laws = new Rule[TEXTS];
     private final Rule[] wants = new Rule[TEXTS];
     private final byte[] tape = new byte[LONGEST];
-    private final Reader reader = new Reader(tape);
+    private final TextReader reader = new TextReader(tape);
     private final Reckoner reckoner = new Reckoner();
     private final Weather weather = new Weather(grid, reckoner, mud);
     private final Net net = new Net(grid);
@@ -726,9 +726,12 @@ public final class CrackedMud {
         return isMet(want, trial);
     }
 
-    /** Where cells, edges and nodes lie to one another; it never changes. */
+    /**
+     * Where cells, edges and nodes lie to one another; it never changes. A stride leads from an edge
+     * to the next of its way across it, a place tells which of those in its line it is; the spokes
+     * of a node are its edges by the way one goes.
+     */
     private static final class Grid {
-        // a stride leads from an edge to the next of its way, a place tells which of its line it is
         final int[] first = new int[EDGES];
         final int[] second = new int[EDGES];
         final int[] fromNode = new int[EDGES];
@@ -1040,7 +1043,7 @@ public final class CrackedMud {
     }
 
     /** Cuts a text into numbers, words and signs, one after the other. */
-    private static final class Scanner {
+    private static final class TextCutter {
         int place = 0;
         int sort = AT_END;
         int value = NONE;
@@ -1048,7 +1051,7 @@ public final class CrackedMud {
         private int length = 0;
         private int next = 0;
 
-        Scanner(byte[] text) {
+        TextCutter(byte[] text) {
             this.text = text;
         }
 
@@ -1156,22 +1159,22 @@ public final class CrackedMud {
                 case IF_WORD: return "if";
                 case AND_WORD: return "and";
                 case OR_WORD: return "or";
-                case LAW_WORDS + X_WORD: return "x";
-                case LAW_WORDS + Y_WORD: return "y";
-                case LAW_WORDS + WET_WORD: return "wet";
-                case LAW_WORDS + SHADE_WORD: return "shade";
-                case LAW_WORDS + SALT_WORD: return "salt";
-                case LAW_WORDS + WAY_WORD: return "way";
-                case TICK: return "tick";
-                case WANT_WORDS + ROOMS_AT: return "rooms";
-                case WANT_WORDS + TEES_AT: return "tees";
-                case WANT_WORDS + CROSSES_AT: return "crosses";
-                case WANT_WORDS + TURNS_AT: return "turns";
-                case WANT_WORDS + ENDS_AT: return "ends";
-                case WANT_WORDS + TORN_AT: return "torn";
-                case WANT_WORDS + TEARS_AT: return "tears";
-                case WANT_WORDS + SIDES_AT: return "sides";
-                case WANT_WORDS + LEAST_AT: return "least";
+                case FIRST_LAW_WORD + X_WORD: return "x";
+                case FIRST_LAW_WORD + Y_WORD: return "y";
+                case FIRST_LAW_WORD + WET_WORD: return "wet";
+                case FIRST_LAW_WORD + SHADE_WORD: return "shade";
+                case FIRST_LAW_WORD + SALT_WORD: return "salt";
+                case FIRST_LAW_WORD + WAY_WORD: return "way";
+                case TICK_SPELT: return "tick";
+                case FIRST_WANT_WORD + ROOMS_AT: return "rooms";
+                case FIRST_WANT_WORD + TEES_AT: return "tees";
+                case FIRST_WANT_WORD + CROSSES_AT: return "crosses";
+                case FIRST_WANT_WORD + TURNS_AT: return "turns";
+                case FIRST_WANT_WORD + ENDS_AT: return "ends";
+                case FIRST_WANT_WORD + TORN_AT: return "torn";
+                case FIRST_WANT_WORD + TEARS_AT: return "tears";
+                case FIRST_WANT_WORD + SIDES_AT: return "sides";
+                case FIRST_WANT_WORD + LEAST_AT: return "least";
                 default: return "greatest";
             }
         }
@@ -1181,9 +1184,9 @@ public final class CrackedMud {
      * Reads the tape into a rule, or finds its first fault. It goes along the text once;
      * operators wait in a pile till those that bind no less are behind them.
      */
-    private static final class Reader {
+    private static final class TextReader {
         int fault = 0;
-        private final Scanner scanner;
+        private final TextCutter cutter;
         private boolean asWant = false;
         private int state = CLAUSE_DUE;
         private int side = SUM_SIDE;
@@ -1199,8 +1202,8 @@ public final class CrackedMud {
         private int clauses = 0;
         private final int[] settings = new int[SETTINGS];
 
-        Reader(byte[] text) {
-            scanner = new Scanner(text);
+        TextReader(byte[] text) {
+            cutter = new TextCutter(text);
         }
 
         /** The rule in the first so many bytes; null, and its fault is told, if they are none. */
@@ -1214,12 +1217,12 @@ public final class CrackedMud {
             deep = 0;
             clauses = 0;
             Arrays.fill(settings, NONE);
-            scanner.start(bytes);
+            cutter.start(bytes);
             // each piece has a byte at least, so that the end comes within so many
             for (int piece = 0; piece <= LONGEST && state != ALL_READ; piece++) {
-                scanner.advance();
+                cutter.advance();
                 if (!takePiece()) {
-                    fault += 1 + 8 * scanner.place;
+                    fault += 1 + 8 * cutter.place;
                     return null;
                 }
             }
@@ -1259,7 +1262,7 @@ public final class CrackedMud {
         }
 
         private boolean takeClause() {
-            int kind = scanner.sort == A_WORD ? scanner.value : NONE;
+            int kind = cutter.sort == A_WORD ? cutter.value : NONE;
             if (!within(kind, asWant ? WANT : 0, asWant ? NOT_WORD : TEAR)) {
                 return fails(CAN_NOT_STAND);
             }
@@ -1275,21 +1278,21 @@ public final class CrackedMud {
         }
 
         private boolean takeSetting() {
-            if (scanner.sort != A_NUMBER) {
+            if (cutter.sort != A_NUMBER) {
                 return fails(CAN_NOT_STAND);
             }
             int setting = kinds[clauses];
-            if (!within(scanner.value, SMALLEST[setting], LARGEST[setting])) {
+            if (!within(cutter.value, SMALLEST[setting], LARGEST[setting])) {
                 return fails(BAD_NUMBER);
             }
-            settings[setting] = scanner.value;
+            settings[setting] = cutter.value;
             state = FACT_READ;
             return true;
         }
 
         private boolean takeFact() {
-            boolean opens = scanner.isSign('[');
-            if (!opens && !scanner.isWord(NOT_WORD)) {
+            boolean opens = cutter.isSign('[');
+            if (!opens && !cutter.isWord(NOT_WORD)) {
                 side = LEFT_SIDE;
                 return takeValue();
             }
@@ -1301,11 +1304,12 @@ public final class CrackedMud {
         }
 
         private boolean takeValue() {
-            boolean isNumber = scanner.sort == A_NUMBER;
-            int operand = isNumber ? scanner.value : wordHere();
+            boolean isNumber = cutter.sort == A_NUMBER;
+            int operand = isNumber ? cutter.value : wordHere();
             if (operand == NONE) {
                 return fails(isNumber ? BAD_NUMBER : CAN_NOT_STAND);
             }
+            // asked last: of two faults at one place the lesser one counts
             if (things >= THINGS) {
                 return fails(TOO_MANY);
             }
@@ -1317,11 +1321,14 @@ public final class CrackedMud {
 
         /** The place of the word here among those that a law or a want may name; NONE if it is none. */
         private int wordHere() {
-            int word = scanner.sort == A_WORD ? scanner.value : NONE;
-            if (asWant) {
-                return within(word, TICK, VOCABULARY - 1) ? (word == TICK ? TICKS_AT : word - WANT_WORDS) : NONE;
+            int word = cutter.sort == A_WORD ? cutter.value : NONE;
+            if (!asWant) {
+                return within(word, FIRST_LAW_WORD, TICK_SPELT) ? word - FIRST_LAW_WORD : NONE;
             }
-            return within(word, LAW_WORDS, TICK) ? word - LAW_WORDS : NONE;
+            if (word == TICK_SPELT) {
+                return TICKS_AT;
+            }
+            return within(word, FIRST_WANT_WORD, VOCABULARY - 1) ? word - FIRST_WANT_WORD : NONE;
         }
 
         private boolean takeBehindValue() {
@@ -1337,7 +1344,7 @@ public final class CrackedMud {
             if (side == LEFT_SIDE) {
                 return takeComparison(sign);
             }
-            if (!scanner.isWord(IF_WORD)) {
+            if (!cutter.isWord(IF_WORD)) {
                 return takeClauseEnd(true);
             }
             unpile(1);
@@ -1361,14 +1368,14 @@ public final class CrackedMud {
         }
 
         private boolean takeBehindFact() {
-            boolean joins = scanner.isWord(AND_WORD) || scanner.isWord(OR_WORD);
+            boolean joins = cutter.isWord(AND_WORD) || cutter.isWord(OR_WORD);
             if (joins && kinds[clauses] >= SETTINGS) {
-                int sign = scanner.isWord(AND_WORD) ? AND : OR;
+                int sign = cutter.isWord(AND_WORD) ? AND : OR;
                 state = FACT_DUE;
                 unpile(RANKS[sign]);
                 return pileUp(sign);
             }
-            if (!scanner.isSign(']')) {
+            if (!cutter.isSign(']')) {
                 return takeClauseEnd(false);
             }
             unpile(1);
@@ -1382,9 +1389,9 @@ public final class CrackedMud {
         }
 
         private boolean takeClauseEnd(boolean bare) {
-            boolean atEnd = scanner.sort == AT_END;
+            boolean atEnd = cutter.sort == AT_END;
             unpile(1);
-            if (piled > 0 || !atEnd && !scanner.isSign(';')) {
+            if (piled > 0 || !atEnd && !cutter.isSign(';')) {
                 return fails(CAN_NOT_STAND);
             }
             if (bare) {
@@ -1397,10 +1404,10 @@ public final class CrackedMud {
         }
 
         private int signHere() {
-            if (scanner.sort != A_SIGN) {
+            if (cutter.sort != A_SIGN) {
                 return NONE;
             }
-            switch (scanner.value) {
+            switch (cutter.value) {
                 case '+': return PLUS;
                 case '-': return MINUS;
                 case '*': return TIMES;

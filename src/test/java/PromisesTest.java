@@ -322,6 +322,14 @@ public final class PromisesTest {
         due("a want", law(x, "want 1=1"), fault(0, 0));
         due("not", law(x, "not 1=1"), fault(0, 0));
         due("drys", law(x, "drys 1"), fault(0, 0));
+        due("az", law(x, "az 1"), fault(0, 0));
+        due("xz", law(x, "dry xz"), fault(4, 0));
+        due("ax", law(x, "dry ax"), fault(4, 0));
+        due("below a", law(x, "dry x`"), fault(5, 0));
+        due("above z", law(x, "dry x{"), fault(5, 0));
+        due("below 0", law(x, "dry 1."), fault(5, 0));
+        due("above 9", law(x, "dry 1:"), fault(5, 0));
+        due("tab", law(x, "dry\t1"), fault(3, 0));
         due("byte 200", law(x, "dry " + (char) 200), fault(4, 0));
         due("no number", law(x, "notch x"), fault(6, 0));
         due("behind a number", law(x, "notch 5 x"), fault(8, 0));
@@ -1007,6 +1015,14 @@ public final class PromisesTest {
         x.back(0);
         promise = 26;
         due("that floor again", x.miss(1, 0), 0);
+        x = floor(1, 1);
+        law(x, "dry 1000;let 1;most 9");
+        x.image(2);
+        x.tick(0, 60);
+        due("all heal", x.rain(0, 1000), 180);
+        due("all", x.miss(0, 2), 180);
+        promise = 27;
+        due("the only one", x.likeliest(2), 0);
     }
 
     private static void lead() {
@@ -1063,6 +1079,11 @@ public final class PromisesTest {
         x.candidate(5, 7, 1);
         due("by the greater number of 4 and 5 none", x.lead(0, 0, 1), 16);
         due("by ticks none", x.lead(0, 0, 2), -2);
+        x = floor(1, 1000);
+        law(x, "dry 400;let 1;most 9");
+        want(x, "want torn = 6");
+        for (int k = 0; k < 6; k++) x.candidate(k, 20 * k, 500);
+        due("all six", x.lead(0, 0, 1), 63);
     }
 
     private static void slowAndWhole() {
@@ -1110,10 +1131,23 @@ public final class PromisesTest {
         due("21", x.whole(0, 21), -1);
         due("-1", x.whole(0, -1), -1);
         for (int n : around(3)) due("law " + n, x.whole(n, 1), -1);
+        // dry 50 by 20 ticks: 1000, 575, 505, 496 by layers
+        law(x = floor(1, 2 * 496), "dry 50;let 1");
+        due("four", x.whole(0, 20), 4);
+        law(x = floor(1, 2 * 496 - 1), "dry 50;let 1");
+        due("not four either", x.whole(0, 20), -2);
+        law(x = floor(4, 2 * 505), "dry 50;let 1");
+        due("three", x.whole(0, 20), 3);
+        law(x = floor(4, 2 * 575), "dry 50;let 1");
+        due("two", x.whole(0, 20), 2);
         x = new CrackedMud();
         x.begin(4, 5, 100, 9000);
-        law(x, "dry 40;let 1;most 1");
-        due("by its seed and numbers", x.whole(0, 1) == -2 || x.whole(0, 1) == 1 ? 1 : 0, 1);
+        int weakest = 9999;
+        for (int e = 0; e < 180; e++) weakest = Math.min(weakest, x.edge(0, e, 3));
+        law(x, "dry " + weakest / 2 + ";let 1");
+        law(x, "dry " + (weakest / 2 + 1) + ";let 1");
+        due("by its seed and numbers: the weakest holds", x.whole(0, 1), 1);
+        due("by its seed and numbers: it does not", x.whole(1, 1) == 1 ? 1 : 0, 0);
     }
 
     private static void much() {
